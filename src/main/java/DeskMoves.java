@@ -206,11 +206,11 @@ public final class DeskMoves {
 
     public boolean cancel(int booking) throws IllegalArgumentException {
         Booking gone = bookingNumbered(booking);
-        return gone.place.remove(gone);
+        return gone.bookedRoom.remove(gone);
     }
 
     public int roomOf(int booking) throws IllegalArgumentException {
-        return bookingNumbered(booking).place.number;
+        return bookingNumbered(booking).bookedRoom.number;
     }
 
     public int inside(int room, int minute) throws IllegalArgumentException {
@@ -638,16 +638,16 @@ public final class DeskMoves {
 
     private static final class Booking {
         final int number;
-        final Room place;
+        final Room bookedRoom;
         final int from;
         final int to;
         final int heads;
         // The one behind it in the room's chain.
         Booking next;
 
-        Booking(int number, Room place, int from, int to, int heads) {
+        Booking(int number, Room bookedRoom, int from, int to, int heads) {
             this.number = number;
-            this.place = place;
+            this.bookedRoom = bookedRoom;
             this.from = from;
             this.to = to;
             this.heads = heads;

@@ -249,6 +249,17 @@ public final class PromisesTest {
         Checks.due("all others stay", 0, z::seat);
         desksAre("one moved, the others stay", z, 0, 12, 11, 10, 9, 8, 7, 6, 5, 4);
         Checks.due("one moved", 1, z::moved);
+        DeskMoves ring = office(10, 10);
+        for (int p = 0; p < 10; p++) {
+            ring.sits(p, p);
+            for (int d = 0; d < 10; d++) {
+                ring.bar(p, d, d != p && d != (p + 1) % 10);
+            }
+        }
+        Checks.due("all stay", 0, ring::seat);
+        ring.wish(0, 1, 1);
+        Checks.due("a worth of 1 before ten moved", 1, ring::seat);
+        Checks.due("ten moved", 10, ring::moved);
     }
 
     private static void promise8DeskOf() {
@@ -289,6 +300,9 @@ public final class PromisesTest {
         Checks.due("a ring and a free desk", 4, ring::steps);
         DeskMoves full = moving(3, new int[] {0, 1, 2}, new int[] {1, 2, 0});
         Checks.due("a ring and no free desk", -2, full::steps);
+        full.desk();
+        full.seat();
+        Checks.due("not stuck any more", 4, full::steps);
         Checks.due("all sit at their desks", 0, () -> moving(2, new int[] {0, 1}, new int[] {0, 1}).steps());
         Checks.due("all were away", 2, () -> moving(2, new int[] {NONE, NONE}, new int[] {1, 0}).steps());
         Checks.due("a chain", 3, () -> moving(4, new int[] {0, 1, 2}, new int[] {1, 2, 3}).steps());
