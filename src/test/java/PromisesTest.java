@@ -33,49 +33,6 @@ public final class PromisesTest {
         Checks.end();
     }
 
-    private static DeskMoves office(int desks, int persons) {
-        DeskMoves x = new DeskMoves();
-        for (int d = 0; d < desks; d++) {
-            x.desk();
-        }
-        for (int p = 0; p < persons; p++) {
-            x.person();
-        }
-        return x;
-    }
-
-    private static DeskMoves house(int... places) {
-        DeskMoves x = new DeskMoves();
-        for (int p : places) {
-            x.room(p);
-        }
-        return x;
-    }
-
-    /** Old desks as told, and a wish of each person for the desk to which it shall go. */
-    private static DeskMoves moving(int desks, int[] old, int[] wished) {
-        DeskMoves x = office(desks, old.length);
-        for (int p = 0; p < old.length; p++) {
-            x.sits(p, old[p]);
-            x.wish(p, wished[p], 9);
-        }
-        x.seat();
-        return x;
-    }
-
-    private static void desksAre(String what, DeskMoves x, int... desks) {
-        for (int p = 0; p < desks.length; p++) {
-            int person = p;
-            Checks.due(what + ": deskOf(" + p + ")", desks[p], () -> x.deskOf(person));
-        }
-    }
-
-    private static void stepIs(String what, DeskMoves x, int k, int person, int from, int to) {
-        Checks.due(what + ": person of step " + k, person, () -> x.step(k, 0));
-        Checks.due(what + ": desk left in step " + k, from, () -> x.step(k, 1));
-        Checks.due(what + ": goal of step " + k, to, () -> x.step(k, 2));
-    }
-
     private static void promise1NewObject() {
         DeskMoves x = new DeskMoves();
         Checks.due("new: moved", NONE, x::moved);
@@ -110,7 +67,7 @@ public final class PromisesTest {
     }
 
     private static void promise3Person() {
-        DeskMoves x = office(14, 0);
+        DeskMoves x = Made.office(14, 0);
         for (int p = 0; p < 10; p++) {
             Checks.due("person()", p, x::person);
         }
@@ -118,11 +75,11 @@ public final class PromisesTest {
         Checks.illegalState("an 11th person", x::person);
         Checks.due("the seating stays when person() throws", 0, x::moved);
         Checks.illegalArgument("person 10", () -> x.deskOf(10));
-        desksAre("ten persons without wishes", x, 0, 1, 2, 3, 4, 5, 6, 7, 8, 9);
+        Checks.desksAre("ten persons without wishes", x, 0, 1, 2, 3, 4, 5, 6, 7, 8, 9);
     }
 
     private static void promise4Wish() {
-        DeskMoves x = office(3, 2);
+        DeskMoves x = Made.office(3, 2);
         Checks.due("first wish", 0, () -> x.wish(1, 2, 1000));
         Checks.due("second wish", 1000, () -> x.wish(1, 2, 0));
         Checks.due("third wish", 0, () -> x.wish(1, 2, 7));
@@ -148,17 +105,17 @@ public final class PromisesTest {
     }
 
     private static void promise5Bar() {
-        DeskMoves x = office(2, 2);
+        DeskMoves x = Made.office(2, 2);
         Checks.due("first bar", false, x.bar(0, 0, true));
         Checks.due("bar again", true, x.bar(0, 0, true));
         x.seat();
-        desksAre("desk 0 is barred for person 0", x, 1, 0);
+        Checks.desksAre("desk 0 is barred for person 0", x, 1, 0);
         Checks.due("bar of another desk", false, x.bar(0, 1, false));
         Checks.due("bar of another person", false, x.bar(1, 0, false));
         Checks.due("no bar", true, x.bar(0, 0, false));
         Checks.due("no bar again", false, x.bar(0, 0, false));
         x.seat();
-        desksAre("nothing is barred", x, 0, 1);
+        Checks.desksAre("nothing is barred", x, 0, 1);
         Checks.illegalArgument("bar: no person", () -> x.bar(2, 0, true) ? 1 : 0);
         Checks.illegalArgument("bar: no desk", () -> x.bar(0, 2, true) ? 1 : 0);
         Checks.illegalArgument("bar: person -1", () -> x.bar(-1, 0, false) ? 1 : 0);
@@ -167,11 +124,11 @@ public final class PromisesTest {
             Checks.illegalArgument("bar for a wrong person", () -> x.bar(wrong, 0, true) ? 1 : 0);
             Checks.illegalArgument("bar of a wrong desk", () -> x.bar(0, wrong, true) ? 1 : 0);
         }
-        desksAre("the seating stays when bar() throws", x, 0, 1);
+        Checks.desksAre("the seating stays when bar() throws", x, 0, 1);
     }
 
     private static void promise6Sits() {
-        DeskMoves x = office(3, 2);
+        DeskMoves x = Made.office(3, 2);
         Checks.due("first old desk", NONE, () -> x.sits(0, 1));
         Checks.due("the same old desk", 1, () -> x.sits(0, 1));
         Checks.illegalState("another's old desk", () -> x.sits(1, 1));
@@ -197,15 +154,15 @@ public final class PromisesTest {
     }
 
     private static void promise7Seat() {
-        Checks.due("no desk for a person", NONE, () -> office(0, 1).seat());
-        Checks.due("too few desks", NONE, () -> office(9, 10).seat());
-        Checks.due("just enough desks", 0, () -> office(10, 10).seat());
-        DeskMoves x = office(3, 3);
+        Checks.due("no desk for a person", NONE, () -> Made.office(0, 1).seat());
+        Checks.due("too few desks", NONE, () -> Made.office(9, 10).seat());
+        Checks.due("just enough desks", 0, () -> Made.office(10, 10).seat());
+        DeskMoves x = Made.office(3, 3);
         x.wish(0, 0, 10);
         x.wish(0, 1, 9);
         x.wish(1, 0, 8);
         Checks.due("best together, not first come", 17, x::seat);
-        desksAre("best together", x, 1, 0, 2);
+        Checks.desksAre("best together", x, 1, 0, 2);
         Checks.due("the same once more", 17, x::seat);
         x.bar(1, 1, true);
         x.bar(1, 2, true);
@@ -216,40 +173,40 @@ public final class PromisesTest {
         Checks.due("moved when there is no seating", NONE, x::moved);
         x.bar(2, 2, false);
         Checks.due("a chain of changes", 17, x::seat);
-        DeskMoves full = office(14, 10);
+        DeskMoves full = Made.office(14, 10);
         for (int p = 0; p < 10; p++) {
             full.wish(p, 13 - p, 1000);
         }
         Checks.due("the greatest worth", 10000, full::seat);
-        desksAre("the greatest worth", full, 13, 12, 11, 10, 9, 8, 7, 6, 5, 4);
+        Checks.desksAre("the greatest worth", full, 13, 12, 11, 10, 9, 8, 7, 6, 5, 4);
     }
 
     private static void promise7WhichSeating() {
-        DeskMoves x = office(4, 2);
+        DeskMoves x = Made.office(4, 2);
         x.sits(0, 3);
         x.sits(1, 2);
         Checks.due("nobody has wishes", 0, x::seat);
-        desksAre("fewest moved before least desk", x, 3, 2);
+        Checks.desksAre("fewest moved before least desk", x, 3, 2);
         x.wish(0, 1, 1);
         Checks.due("one has a wish", 1, x::seat);
-        desksAre("worth before fewest moved", x, 1, 2);
-        DeskMoves y = office(4, 3);
+        Checks.desksAre("worth before fewest moved", x, 1, 2);
+        DeskMoves y = Made.office(4, 3);
         y.bar(0, 0, true);
         y.seat();
-        desksAre("least desk for person 0, then for person 1", y, 1, 0, 2);
+        Checks.desksAre("least desk for person 0, then for person 1", y, 1, 0, 2);
         y.wish(0, 3, 5);
         y.wish(1, 3, 5);
         y.seat();
-        desksAre("person 0's least desk weighs more than all others'", y, 1, 3, 0);
-        DeskMoves z = office(14, 10);
+        Checks.desksAre("person 0's least desk weighs more than all others'", y, 1, 3, 0);
+        DeskMoves z = Made.office(14, 10);
         for (int p = 0; p < 10; p++) {
             z.sits(p, 13 - p);
         }
         z.bar(0, 13, true);
         Checks.due("all others stay", 0, z::seat);
-        desksAre("one moved, the others stay", z, 0, 12, 11, 10, 9, 8, 7, 6, 5, 4);
+        Checks.desksAre("one moved, the others stay", z, 0, 12, 11, 10, 9, 8, 7, 6, 5, 4);
         Checks.due("one moved", 1, z::moved);
-        DeskMoves ring = office(10, 10);
+        DeskMoves ring = Made.office(10, 10);
         for (int p = 0; p < 10; p++) {
             ring.sits(p, p);
             for (int d = 0; d < 10; d++) {
@@ -263,7 +220,7 @@ public final class PromisesTest {
     }
 
     private static void promise8DeskOf() {
-        DeskMoves x = office(2, 1);
+        DeskMoves x = Made.office(2, 1);
         Checks.due("no seating is made", NONE, () -> x.deskOf(0));
         x.wish(0, 1, 1);
         x.seat();
@@ -279,7 +236,7 @@ public final class PromisesTest {
     }
 
     private static void promise9Moved() {
-        DeskMoves x = office(4, 3);
+        DeskMoves x = Made.office(4, 3);
         Checks.due("no seating: moved", NONE, x::moved);
         x.sits(0, 0);
         x.sits(1, 1);
@@ -296,19 +253,19 @@ public final class PromisesTest {
     }
 
     private static void promise10Steps() {
-        DeskMoves ring = moving(4, new int[] {0, 1, 2}, new int[] {1, 2, 0});
+        DeskMoves ring = Made.moving(4, new int[] {0, 1, 2}, new int[] {1, 2, 0});
         Checks.due("a ring and a free desk", 4, ring::steps);
-        DeskMoves full = moving(3, new int[] {0, 1, 2}, new int[] {1, 2, 0});
+        DeskMoves full = Made.moving(3, new int[] {0, 1, 2}, new int[] {1, 2, 0});
         Checks.due("a ring and no free desk", -2, full::steps);
         full.desk();
         full.seat();
         Checks.due("not stuck any more", 4, full::steps);
-        Checks.due("all sit at their desks", 0, () -> moving(2, new int[] {0, 1}, new int[] {0, 1}).steps());
-        Checks.due("all were away", 2, () -> moving(2, new int[] {NONE, NONE}, new int[] {1, 0}).steps());
-        Checks.due("a chain", 3, () -> moving(4, new int[] {0, 1, 2}, new int[] {1, 2, 3}).steps());
-        Checks.due("five rings", 15, () -> moving(11,
+        Checks.due("all sit at their desks", 0, () -> Made.moving(2, new int[] {0, 1}, new int[] {0, 1}).steps());
+        Checks.due("all were away", 2, () -> Made.moving(2, new int[] {NONE, NONE}, new int[] {1, 0}).steps());
+        Checks.due("a chain", 3, () -> Made.moving(4, new int[] {0, 1, 2}, new int[] {1, 2, 3}).steps());
+        Checks.due("five rings", 15, () -> Made.moving(11,
             new int[] {0, 1, 2, 3, 4, 5, 6, 7, 8, 9}, new int[] {1, 0, 3, 2, 5, 4, 7, 6, 9, 8}).steps());
-        DeskMoves x = office(2, 2);
+        DeskMoves x = Made.office(2, 2);
         Checks.illegalState("steps: no seating", x::steps);
         x.bar(0, 0, true);
         x.bar(0, 1, true);
@@ -317,13 +274,13 @@ public final class PromisesTest {
     }
 
     private static void promise11Step() {
-        DeskMoves x = moving(5, new int[] {1, 0, NONE, 3}, new int[] {0, 1, 3, 2});
+        DeskMoves x = Made.moving(5, new int[] {1, 0, NONE, 3}, new int[] {0, 1, 3, 2});
         Checks.due("steps of a chain, then of a ring", 5, x::steps);
-        stepIs("who can goes first", x, 0, 3, 3, 2);
-        stepIs("one who was away", x, 1, 2, NONE, 3);
-        stepIs("aside into the least free desk", x, 2, 0, 1, 4);
-        stepIs("the ring is open", x, 3, 1, 0, 1);
-        stepIs("back from aside", x, 4, 0, 4, 0);
+        Checks.stepIs("who can goes first", x, 0, 3, 3, 2);
+        Checks.stepIs("one who was away", x, 1, 2, NONE, 3);
+        Checks.stepIs("aside into the least free desk", x, 2, 0, 1, 4);
+        Checks.stepIs("the ring is open", x, 3, 1, 0, 1);
+        Checks.stepIs("back from aside", x, 4, 0, 4, 0);
         Checks.illegalArgument("behind the last step", () -> x.step(5, 0));
         Checks.illegalArgument("k -1", () -> x.step(-1, 0));
         Checks.illegalArgument("what 3", () -> x.step(0, 3));
@@ -332,15 +289,15 @@ public final class PromisesTest {
             Checks.illegalArgument("a wrong k", () -> x.step(wrong, 0));
             Checks.illegalArgument("a wrong what", () -> x.step(0, wrong));
         }
-        DeskMoves stuck = moving(3, new int[] {1, 0, NONE}, new int[] {0, 1, 2});
+        DeskMoves stuck = Made.moving(3, new int[] {1, 0, NONE}, new int[] {0, 1, 2});
         Checks.due("stuck behind one step", -2, stuck::steps);
-        stepIs("the step that can be gone", stuck, 0, 2, NONE, 2);
+        Checks.stepIs("the step that can be gone", stuck, 0, 2, NONE, 2);
         Checks.illegalArgument("behind it all is stuck", () -> stuck.step(1, 0));
-        DeskMoves barred = moving(4, new int[] {0, 1}, new int[] {1, 0});
+        DeskMoves barred = Made.moving(4, new int[] {0, 1}, new int[] {1, 0});
         barred.bar(0, 2, true);
         barred.seat();
-        stepIs("a desk on the way may be barred", barred, 0, 0, 0, 2);
-        DeskMoves none = office(1, 1);
+        Checks.stepIs("a desk on the way may be barred", barred, 0, 0, 0, 2);
+        DeskMoves none = Made.office(1, 1);
         Checks.illegalState("step: no seating", () -> none.step(0, 0));
         Checks.illegalState("step: no seating, k too great", () -> none.step(99, 2));
         Checks.illegalArgument("step: no seating, k -1", () -> none.step(-1, 0));
@@ -348,7 +305,7 @@ public final class PromisesTest {
     }
 
     private static void promise12Settle() {
-        DeskMoves x = office(4, 3);
+        DeskMoves x = Made.office(4, 3);
         Checks.illegalState("settle: no seating", x::settle);
         x.sits(0, 0);
         x.sits(1, 1);
@@ -364,7 +321,7 @@ public final class PromisesTest {
     }
 
     private static void promise13WorthOf() {
-        DeskMoves x = office(2, 2);
+        DeskMoves x = Made.office(2, 2);
         x.wish(0, 0, 10);
         x.wish(1, 0, 7);
         x.wish(1, 1, 4);
@@ -373,7 +330,7 @@ public final class PromisesTest {
         x.seat();
         Checks.due("the other gets more without it", 7, () -> x.worthOf(0));
         Checks.due("the other gets no more", 4, () -> x.worthOf(1));
-        desksAre("the seating stays", x, 0, 1);
+        Checks.desksAre("the seating stays", x, 0, 1);
         Checks.due("the steps stay", 2, x::steps);
         x.bar(0, 1, true);
         x.wish(0, 0, 0);
@@ -383,7 +340,7 @@ public final class PromisesTest {
         for (int wrong : WRONG) {
             Checks.illegalArgument("worthOf a wrong person", () -> x.worthOf(wrong));
         }
-        DeskMoves alone = office(1, 1);
+        DeskMoves alone = Made.office(1, 1);
         alone.wish(0, 0, 1000);
         alone.seat();
         Checks.due("worthOf the only person", 1000, () -> alone.worthOf(0));
@@ -391,7 +348,7 @@ public final class PromisesTest {
 
     /** Also calls that change nothing undo the seating, unless they throw; those of rooms don't. */
     private static void noSeatingBehindChanges() {
-        DeskMoves x = office(2, 1);
+        DeskMoves x = Made.office(2, 1);
         x.sits(0, 1);
         x.seat();
         x.wish(0, 0, 0);
@@ -437,7 +394,7 @@ public final class PromisesTest {
     }
 
     private static void promise15Book() {
-        DeskMoves x = house(10, 4, 4, 6);
+        DeskMoves x = Made.house(10, 4, 4, 6);
         Checks.due("fewest places, least room", 0, () -> x.book(10, 20, 3));
         Checks.due("the other of the same places", 1, () -> x.book(19, 21, 4));
         Checks.due("more places", 2, () -> x.book(0, 20, 4));
@@ -471,7 +428,7 @@ public final class PromisesTest {
     }
 
     private static void promise15ThreeHundred() {
-        DeskMoves x = house(1);
+        DeskMoves x = Made.house(1);
         for (int b = 0; b < 300; b++) {
             int from = 10000 - 30 * b;
             Checks.due("book from late to early", b, () -> x.book(from, from + 20, 1));
@@ -486,7 +443,7 @@ public final class PromisesTest {
     }
 
     private static void promise16Cancel() {
-        DeskMoves x = house(2);
+        DeskMoves x = Made.house(2);
         x.book(0, 10, 1);
         x.book(10, 20, 1);
         x.book(20, 30, 1);
@@ -509,7 +466,7 @@ public final class PromisesTest {
     }
 
     private static void promise17RoomOf() {
-        DeskMoves x = house(5, 3);
+        DeskMoves x = Made.house(5, 3);
         x.book(0, 10, 4);
         x.book(0, 10, 2);
         Checks.due("roomOf(0)", 0, () -> x.roomOf(0));
@@ -525,7 +482,7 @@ public final class PromisesTest {
     }
 
     private static void promise18Inside() {
-        DeskMoves x = house(5, 3);
+        DeskMoves x = Made.house(5, 3);
         x.book(10, 20, 4);
         x.book(20, 21, 4);
         x.book(10079, 10080, 4);
@@ -550,7 +507,7 @@ public final class PromisesTest {
     }
 
     private static void promise19Gap() {
-        DeskMoves x = house(5, 9);
+        DeskMoves x = Made.house(5, 9);
         Checks.due("the whole week", 0, () -> x.gap(0, 0, 10080));
         Checks.due("more than is left of it", NONE, () -> x.gap(0, 1, 10080));
         x.book(30, 40, 1);
@@ -585,7 +542,7 @@ public final class PromisesTest {
     }
 
     private static void promise20Waste() {
-        DeskMoves x = house(5, 200);
+        DeskMoves x = Made.house(5, 200);
         Checks.due("no bookings", 0, x::waste);
         x.book(0, 10, 5);
         Checks.due("nothing is left over", 0, x::waste);

@@ -2,6 +2,9 @@ import java.util.Random;
 
 /** Runs of calls by chance (from fixed seeds) on the class and on the slow one: the same answers. */
 public final class RandomRunsTest {
+    // Behind so many calls what an object answers is free.
+    private static final int LAST_CALL = 512;
+
     private final Random chance;
     private final DeskMoves fast = new DeskMoves();
     private final SlowDeskMoves slow = new SlowDeskMoves();
@@ -9,6 +12,7 @@ public final class RandomRunsTest {
     private int desks = 0;
     private int persons = 0;
     private int booked = 0;
+    private int calls = 0;
 
     private RandomRunsTest(int seed) {
         chance = new Random(seed);
@@ -16,32 +20,55 @@ public final class RandomRunsTest {
     }
 
     public static void main(String[] args) {
-        for (int seed = 0; seed < 150; seed++) {
+        for (int seed = 0; seed < 900; seed++) {
             new RandomRunsTest(seed).seatingRun(2 + seed % 7, 1 + seed % 6, seed % 3 == 0 ? 2 : 5);
         }
-        for (int seed = 1000; seed < 1006; seed++) {
+        for (int seed = 1000; seed < 1020; seed++) {
             new RandomRunsTest(seed).seatingRun(10 + seed % 5, 10, seed % 2 == 0 ? 3 : 1001);
         }
         for (int seed = 2000; seed < 2150; seed++) {
             new RandomRunsTest(seed).roomRun(seed % 3 == 0 ? 200 : 10080, seed % 2 == 0 ? 40 : 2000);
         }
+        for (int seed = 3000; seed < 3100; seed++) {
+            new RandomRunsTest(seed).mixedRun();
+        }
         Checks.end();
     }
 
     private void same(String call, Checks.Call due, Checks.Call got) {
-        Checks.told(name + call, Checks.outcome(due), Checks.outcome(got));
+        if (calls < LAST_CALL) {
+            calls++;
+            Checks.told(name + call, Checks.outcome(due), Checks.outcome(got));
+        }
     }
 
     private void seatingRun(int maxDesks, int maxPersons, int wishes) {
-        int limit = maxDesks > 9 ? 120 : 300;
-        for (int k = 0; k < limit; k++) {
-            if (chance.nextInt(10) == 0 || k < maxDesks + maxPersons) {
+        for (int k = 0; calls < LAST_CALL; k++) {
+            boolean full = desks == maxDesks && persons == maxPersons;
+            if (chance.nextInt(10) == 0 || !full && k < 2 * (maxDesks + maxPersons)) {
                 grow(maxDesks, maxPersons);
             }
             change(wishes);
-            if (chance.nextInt(maxDesks > 9 ? 12 : 4) == 0) {
+            if (chance.nextInt(maxDesks > 9 ? 12 : 6) == 0) {
                 seatAndAsk();
             }
+        }
+    }
+
+    private void mixedRun() {
+        while (calls < LAST_CALL) {
+            switch (chance.nextInt(4)) {
+                case 0 -> grow(7, 6);
+                case 1 -> change(4);
+                case 2 -> changeRooms(300, 60);
+                default -> seatNowAndThen();
+            }
+        }
+    }
+
+    private void seatNowAndThen() {
+        if (chance.nextInt(6) == 0) {
+            seatAndAsk();
         }
     }
 
@@ -49,7 +76,7 @@ public final class RandomRunsTest {
         if (chance.nextBoolean() && desks < maxDesks) {
             same("desk()", slow::desk, fast::desk);
             desks++;
-        } else if (persons < maxPersons) {
+        } else if (persons < maxPersons && persons <= desks) {
             same("person()", slow::person, fast::person);
             persons++;
         }
@@ -70,7 +97,7 @@ public final class RandomRunsTest {
             case 3 -> same("bar" + args(p, d, on ? 1 : 0),
                 () -> slow.bar(p, d, on) ? 1 : 0, () -> fast.bar(p, d, on) ? 1 : 0);
             case 4 -> same("sits" + args(p, old), () -> slow.sits(p, old), () -> fast.sits(p, old));
-            default -> ask();
+            default -> askLittle();
         }
     }
 
@@ -82,6 +109,15 @@ public final class RandomRunsTest {
         }
     }
 
+    private void askLittle() {
+        int p = near(persons);
+        int k = chance.nextInt(8) - 1;
+        int what = chance.nextInt(5) - 1;
+        same("deskOf" + args(p), () -> slow.deskOf(p), () -> fast.deskOf(p));
+        same("step" + args(k, what), () -> slow.step(k, what), () -> fast.step(k, what));
+        same("worthOf" + args(p), () -> slow.worthOf(p), () -> fast.worthOf(p));
+    }
+
     private void ask() {
         same("moved()", slow::moved, fast::moved);
         same("steps()", slow::steps, fast::steps);
@@ -89,8 +125,8 @@ public final class RandomRunsTest {
             int asked = p;
             same("deskOf" + args(p), () -> slow.deskOf(asked), () -> fast.deskOf(asked));
         }
-        for (int k = -1; k < 17; k++) {
-            for (int what = -1; what <= 3; what++) {
+        for (int k = 0; k <= slow.stepsThatCanBeGone(); k++) {
+            for (int what = 0; what <= 2; what++) {
                 int step = k;
                 int asked = what;
                 same("step" + args(k, what), () -> slow.step(step, asked), () -> fast.step(step, asked));
@@ -102,24 +138,28 @@ public final class RandomRunsTest {
     }
 
     private void roomRun(int end, int length) {
-        for (int k = 0; k < 512; k++) {
-            int r = near(8);
-            int b = near(booked);
-            int from = chance.nextInt(30) == 0 ? -1 + chance.nextInt(2) * 10081 : chance.nextInt(end);
-            int minutes = chance.nextInt(40) == 0 ? chance.nextInt(3) * 5040 : 1 + chance.nextInt(length);
-            int to = Math.min(from + minutes, 10080 + chance.nextInt(20) / 19);
-            int heads = chance.nextInt(50) == 0 ? chance.nextInt(2) * 201 : 1 + chance.nextInt(12);
-            switch (chance.nextInt(12)) {
-                case 0 -> same("room" + args(heads), () -> slow.room(heads), () -> fast.room(heads));
-                case 1 -> same("cancel" + args(b), () -> slow.cancel(b) ? 1 : 0, () -> fast.cancel(b) ? 1 : 0);
-                case 2 -> same("roomOf" + args(b), () -> slow.roomOf(b), () -> fast.roomOf(b));
-                case 3 -> same("inside" + args(r, from), () -> slow.inside(r, from), () -> fast.inside(r, from));
-                case 4 -> same("gap" + args(r, from, minutes),
-                    () -> slow.gap(r, from, minutes), () -> fast.gap(r, from, minutes));
-                case 5 -> same("waste()", slow::waste, fast::waste);
-                default -> same("book" + args(from, to, heads), () -> countBooked(slow.book(from, to, heads)),
-                    () -> fast.book(from, to, heads));
-            }
+        while (calls < LAST_CALL) {
+            changeRooms(end, length);
+        }
+    }
+
+    private void changeRooms(int end, int length) {
+        int r = near(8);
+        int b = near(booked);
+        int from = chance.nextInt(30) == 0 ? -1 + chance.nextInt(2) * 10081 : chance.nextInt(end);
+        int minutes = chance.nextInt(40) == 0 ? chance.nextInt(3) * 5040 : 1 + chance.nextInt(length);
+        int to = Math.min(from + minutes, 10080 + chance.nextInt(20) / 19);
+        int heads = chance.nextInt(50) == 0 ? chance.nextInt(2) * 201 : 1 + chance.nextInt(12);
+        switch (chance.nextInt(12)) {
+            case 0 -> same("room" + args(heads), () -> slow.room(heads), () -> fast.room(heads));
+            case 1 -> same("cancel" + args(b), () -> slow.cancel(b) ? 1 : 0, () -> fast.cancel(b) ? 1 : 0);
+            case 2 -> same("roomOf" + args(b), () -> slow.roomOf(b), () -> fast.roomOf(b));
+            case 3 -> same("inside" + args(r, from), () -> slow.inside(r, from), () -> fast.inside(r, from));
+            case 4 -> same("gap" + args(r, from, minutes),
+                () -> slow.gap(r, from, minutes), () -> fast.gap(r, from, minutes));
+            case 5 -> same("waste()", slow::waste, fast::waste);
+            default -> same("book" + args(from, to, heads), () -> countBooked(slow.book(from, to, heads)),
+                () -> fast.book(from, to, heads));
         }
     }
 

@@ -91,6 +91,11 @@ final class SlowDeskMoves {
         return stuck ? -2 : steps.size();
     }
 
+    /** Not of the document: so that a test knows how many to ask for. */
+    int stepsThatCanBeGone() {
+        return seating == null ? 0 : steps.size();
+    }
+
     int step(int k, int what) {
         argument(what >= 0 && what <= 2 && k >= 0);
         state(seating != null);
