@@ -32,6 +32,9 @@ public final class RandomRunsTest {
         for (int seed = 3000; seed < 3100; seed++) {
             new RandomRunsTest(seed).mixedRun();
         }
+        for (int seed = 4000; seed < 4060; seed++) {
+            new RandomRunsTest(seed).fullOfficeRun(7 + seed % 4, seed / 4 % 5);
+        }
         Checks.end();
     }
 
@@ -52,6 +55,38 @@ public final class RandomRunsTest {
             if (chance.nextInt(maxDesks > 9 ? 12 : 6) == 0) {
                 seatAndAsk();
             }
+        }
+    }
+
+    /** Nearly all have old desks and many seatings are worth the same: rings, desks all taken, ties. */
+    private void fullOfficeRun(int maxPersons, int freeDesks) {
+        while (persons < maxPersons || desks < Math.min(14, maxPersons + freeDesks)) {
+            grow(maxPersons + freeDesks, maxPersons);
+        }
+        sitAnywhere();
+        int wishes = 1 + chance.nextInt(3);
+        int bars = chance.nextInt(4);
+        for (int k = 0; k < persons * desks; k++) {
+            int p = k / desks;
+            int d = k % desks;
+            int worth = 1000 - chance.nextInt(wishes);
+            boolean on = chance.nextInt(8) < bars;
+            same("wish" + args(p, d, worth), () -> slow.wish(p, d, worth), () -> fast.wish(p, d, worth));
+            same("bar" + args(p, d, on ? 1 : 0), () -> slow.bar(p, d, on) ? 1 : 0, () -> fast.bar(p, d, on) ? 1 : 0);
+        }
+        while (calls < LAST_CALL) {
+            seatAndAsk();
+            change(1001);
+        }
+    }
+
+    private void sitAnywhere() {
+        int first = chance.nextInt(desks);
+        for (int p = 0; p < persons; p++) {
+            int person = p;
+            // The factor has no divisor in common with the 7 .. 14 desks, so no desk comes twice.
+            int old = chance.nextInt(8) == 0 ? -1 : (first + p * (desks % 3 == 0 ? 5 : 3)) % desks;
+            same("sits" + args(p, old), () -> slow.sits(person, old), () -> fast.sits(person, old));
         }
     }
 
